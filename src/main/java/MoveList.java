@@ -36,8 +36,8 @@ public final class MoveList {
      */
     private static final int ROOM_MOVES = 700;
 
-    private final Position position;
     private final Sight sight;
+    private final Position position;
     private final Moves list;
     /** The moves behind one of the list, while lines are counted. */
     private final Moves ahead;
@@ -46,8 +46,8 @@ public final class MoveList {
     private boolean open;
 
     public MoveList() {
-        position = new Position();
-        sight = new Sight(position);
+        sight = new Sight();
+        position = sight.position;
         list = new Moves();
         ahead = new Moves();
         known = false;
@@ -602,7 +602,7 @@ public final class MoveList {
         private static final long LONG_BETWEEN = 0x0EL;
         private static final long LONG_PATH = 0x1CL;
 
-        private final Position position;
+        final Position position;
         private long own;
         private long theirs;
         private long full;
@@ -611,8 +611,8 @@ public final class MoveList {
         private long cover;
         private long pins;
 
-        Sight(Position position) {
-            this.position = position;
+        Sight() {
+            position = new Position();
             own = 0;
             theirs = 0;
             full = 0;

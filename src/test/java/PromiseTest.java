@@ -230,10 +230,24 @@ final class PromiseTest {
         for (int wrong : new int[] {-1, due.length, due.length + 1, 700, 5000, Integer.MIN_VALUE, Integer.MAX_VALUE}) {
             Due.thrown("move(" + wrong + ")", INDEX, () -> x.move(wrong));
         }
+        // Of several checks all must end: only the king can do that.
+        Due.answer("two knights: only the king moves", onlyTheKing("6k1/8/8/8/8/3n4/2n5/R3KB1R", 0), true);
+        Due.answer("rook and knight: only the king moves", onlyTheKing("4r1k1/8/8/8/8/3n4/7R/4KB1R", 0), true);
+        Due.answer("rook and bishop: only the king moves", onlyTheKing("4r1k1/8/8/8/7b/8/R6R/4KB2", 0), true);
         MoveList mate = position("R5k1/5ppp/8/8/8/8/8/4K3", 1, 0, "-");
         Due.answer("mate count()", mate.count(), 0);
         Due.thrown("mate move(0)", INDEX, () -> mate.move(0));
         Due.answer("a count is anew after put", countAfterPut(), 4);
+    }
+
+    private static boolean onlyTheKing(String board, int side) {
+        MoveList x = position(board, side, 0, "-");
+        for (int i = 0; i < x.count(); i++) {
+            if (x.at(x.move(i) & 63) != 6 + 6 * side) {
+                return false;
+            }
+        }
+        return x.check();
     }
 
     private static int countAfterPut() {
@@ -482,6 +496,8 @@ final class PromiseTest {
         Due.answer("a pawn's", position("4k3/8/8/8/8/8/3p4/4K3", 0, 0, "-").check(), true);
         Due.answer("a pawn's from behind", position("4k3/8/8/8/3K4/4p3/8/8", 0, 0, "-").check(), false);
         Due.answer("a white pawn's", position("4k3/3P4/8/8/8/8/8/4K3", 1, 0, "-").check(), true);
+        Due.answer("a white pawn's from a1", position("8/8/8/8/8/7K/1k6/P7", 1, 0, "-").check(), true);
+        Due.answer("a black pawn's from h8", position("7p/6K1/8/8/8/8/1k6/8", 0, 0, "-").check(), true);
         Due.answer("a knight's", position("4k3/8/8/8/8/3n4/8/4K3", 0, 0, "-").check(), true);
         Due.answer("a bishop's", position("4k3/8/8/8/7b/8/8/4K3", 0, 0, "-").check(), true);
         Due.answer("a queen's", position("4k3/8/8/8/8/8/8/q3K3", 0, 0, "-").check(), true);

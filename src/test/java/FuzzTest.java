@@ -17,25 +17,12 @@ final class FuzzTest {
             }
         }
         for (int i = 0; i < 40 && Due.allRight(); i++) {
-            o = begin();
+            o = Oracle.beginning();
             x = new MoveList();
             x.begin();
             walk(i, 90);
         }
         Due.finish();
-    }
-
-    static Oracle begin() {
-        Oracle o = new Oracle();
-        int[] rank = {4, 2, 3, 5, 6, 3, 2, 4};
-        for (int f = 0; f < 8; f++) {
-            o.board[f] = rank[f];
-            o.board[8 + f] = 1;
-            o.board[48 + f] = 7;
-            o.board[56 + f] = rank[f] + 6;
-        }
-        o.rights = 15;
-        return o;
     }
 
     private static int any(int n) {

@@ -1,7 +1,5 @@
-/** Lines that the chess world has counted many times over, and long games on the limits. */
-final class LinesTest {
-    private static final String SIGNS = ".PNBRQKpnbrqk";
-
+/** Lines that the chess world has counted many times over. */
+final class LinesTest extends Boards {
     public static void main(String[] args) {
         counted("rnbqkbnr/pppppppp/8/8/8/8/PPPPPPPP/RNBQKBNR", 0, 15, -1, 20, 400, 8902);
         counted("r3k2r/p1ppqpb1/bn2pnp1/3PN3/1p2P3/2N2Q1p/PPPBBPPP/R3K2R", 0, 15, -1, 48, 2039, 97862);
@@ -25,22 +23,5 @@ final class LinesTest {
         Due.answer(board + " lines(3)", x.lines(3), three);
         Due.answer(board + " count()", x.count(), one);
         Due.answer(board + " look(3)", x.look(3), 0);
-    }
-
-    /** The board as chess players write it: rank 8 first, a digit for so many empty squares. */
-    static void setUp(MoveList x, String board) {
-        int rank = 7;
-        int file = 0;
-        for (char c : board.toCharArray()) {
-            if (c == '/') {
-                rank--;
-                file = 0;
-            } else if (c >= '1' && c <= '8') {
-                file += c - '0';
-            } else {
-                x.put(8 * rank + file, SIGNS.indexOf(c));
-                file++;
-            }
-        }
     }
 }

@@ -11,6 +11,32 @@ final class Oracle {
     int rights = 0;
     int passing = -1;
 
+    /** The board as chess players write it, rank 8 first, a dot for an empty square; then the state. */
+    @Override
+    public String toString() {
+        StringBuilder b = new StringBuilder();
+        for (int r = 7; r >= 0; r--) {
+            for (int f = 0; f < 8; f++) {
+                b.append(".PNBRQKpnbrqk".charAt(board[8 * r + f]));
+            }
+            b.append(r > 0 ? '/' : ' ');
+        }
+        return b.append(side).append(' ').append(rights).append(' ').append(passing).toString();
+    }
+
+    static Oracle beginning() {
+        Oracle o = new Oracle();
+        int[] rank = {4, 2, 3, 5, 6, 3, 2, 4};
+        for (int f = 0; f < 8; f++) {
+            o.board[f] = rank[f];
+            o.board[8 + f] = 1;
+            o.board[48 + f] = 7;
+            o.board[56 + f] = rank[f] + 6;
+        }
+        o.rights = 15;
+        return o;
+    }
+
     Oracle copy() {
         Oracle o = new Oracle();
         System.arraycopy(board, 0, o.board, 0, 64);
